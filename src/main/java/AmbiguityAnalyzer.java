@@ -2,7 +2,7 @@
  * An analyzer for the ambiguity of nondeterministic finite automata with at most six states and the
  * letters a, b and c. A set of states is an int in which bit s stands for state s.
  *
- * <p>Every array is made once, with the object, because all calls of a run share one small room.
+ * <p>The arrays are made once and used again, because all calls of a run share one small room.
  */
 public final class AmbiguityAnalyzer {
     public static final int NO_SUCH_ELEMENT = -1;
@@ -57,7 +57,8 @@ public final class AmbiguityAnalyzer {
     private final Counter counter = new Counter();
     private final WordSearch search = new WordSearch();
     private final LightSearch lightSearch = new LightSearch();
-    private final RowStore rows = new RowStore();
+    // Half of all the room that an object takes, and needed by one method: made when it is.
+    private RowStore rows;
     private Result result = new Result();
     private Result spareResult = new Result();
     private boolean resultBuilt;
@@ -254,6 +255,9 @@ public final class AmbiguityAnalyzer {
     public long maximumAmbiguity() {
         if (freshSearch().growthKind() >= WordSearch.POLYNOMIAL) {
             return NONE;
+        }
+        if (rows == null) {
+            rows = new RowStore();
         }
         return rows.highestAmbiguity(automaton);
     }
@@ -454,8 +458,7 @@ public final class AmbiguityAnalyzer {
     // ---- helpers of the face ----
 
     private WordSearch freshSearch() {
-        steps.load(automaton);
-        search.look(automaton, steps);
+        search.look(automaton);
         return search;
     }
 
@@ -542,7 +545,8 @@ public final class AmbiguityAnalyzer {
         }
 
         int targetsOf(int state, int letter) {
-            return hasState(state) && isLetter(letter) ? targets[state * LETTERS + letter] : 0;
+            boolean there = state >= 0 && state < states && letter >= 0 && letter < LETTERS;
+            return there ? targets[state * LETTERS + letter] : 0;
         }
 
         boolean add(int from, int letter, int to) {
@@ -846,16 +850,14 @@ public final class AmbiguityAnalyzer {
 
         /** The states to which transitions with the letter lead from states of the set. */
         int reachedOnce(int set, int letter) {
-            return isInside(set, letter) ? once[letter * SETS + set] : 0;
+            boolean there = set >= 0 && set < SETS && letter >= 0 && letter < LETTERS;
+            return there ? once[letter * SETS + set] : 0;
         }
 
         /** The states to which such transitions lead from at least two states of the set. */
         int reachedTwice(int set, int letter) {
-            return isInside(set, letter) ? twice[letter * SETS + set] : 0;
-        }
-
-        private static boolean isInside(int set, int letter) {
-            return set >= 0 && set < SETS && isLetter(letter);
+            boolean there = set >= 0 && set < SETS && letter >= 0 && letter < LETTERS;
+            return there ? twice[letter * SETS + set] : 0;
         }
     }
 
@@ -1015,7 +1017,7 @@ public final class AmbiguityAnalyzer {
         private static final int LETTER_SHIFT = 2 * MAX_STATES;
         private static final int PARENT_SHIFT = LETTER_SHIFT + 2;
 
-        private Steps steps;
+        private final Steps steps = new Steps();
         private int states;
         private int initials;
         private int finals;
@@ -1033,8 +1035,8 @@ public final class AmbiguityAnalyzer {
         private final long[] met = new long[SETS];
         private final int[] chainsTo = new int[MAX_STATES];
 
-        void look(Automaton automaton, Steps loadedSteps) {
-            steps = loadedSteps;
+        void look(Automaton automaton) {
+            steps.load(automaton);
             states = automaton.states;
             initials = automaton.initials;
             finals = automaton.finals;
@@ -1143,12 +1145,16 @@ public final class AmbiguityAnalyzer {
             nodeCount = 0;
             foundNode = NOT_FOUND;
             meet(first, second, 0);
-            for (int at = 0; at < nodeCount && at < nodes.length && foundNode == NOT_FOUND; at++) {
+            for (int at = 0; at < nodeCount && at < nodes.length; at++) {
+                if (isGoal(firstSet(at), secondSet(at))) {
+                    foundNode = at;
+                    return true;
+                }
                 for (int letter = 0; letter < LETTERS; letter++) {
                     goOn(at, letter);
                 }
             }
-            return foundNode != NOT_FOUND;
+            return false;
         }
 
         /**
@@ -1156,8 +1162,8 @@ public final class AmbiguityAnalyzer {
          * that are reached from q, otherwise those that are reached on at least two paths.
          */
         private void goOn(int at, int letter) {
-            int first = nodeAt(at) >> MAX_STATES & SET_MASK;
-            int second = nodeAt(at) & SET_MASK;
+            int first = firstSet(at);
+            int second = secondSet(at);
             int nextFirst = steps.reachedOnce(first, letter);
             int nextSecond = steps.reachedOnce(second, letter);
             if (goal != WITNESS_SPLIT) {
@@ -1174,9 +1180,6 @@ public final class AmbiguityAnalyzer {
                 return;
             }
             met[first] |= 1L << second;
-            if (foundNode == NOT_FOUND && isGoal(first, second)) {
-                foundNode = nodeCount;
-            }
             nodes[nodeCount] = origin | first << MAX_STATES | second;
             nodeCount++;
         }
@@ -1194,6 +1197,14 @@ public final class AmbiguityAnalyzer {
 
         private int nodeAt(int at) {
             return at >= 0 && at < nodes.length ? nodes[at] : 0;
+        }
+
+        private int firstSet(int at) {
+            return nodeAt(at) >> MAX_STATES & SET_MASK;
+        }
+
+        private int secondSet(int at) {
+            return nodeAt(at) & SET_MASK;
         }
 
         void copyFoundWordTo(Word word) {

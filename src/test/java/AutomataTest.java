@@ -1,3 +1,6 @@
+import java.util.ArrayList;
+import java.util.Collections;
+import java.util.List;
 import java.util.Random;
 
 /**
@@ -9,23 +12,24 @@ public final class AutomataTest {
     private static final int[] degrees = new int[6];
     private static int overflows = 0;
     private static int tooLarge = 0;
-    private static int longWitnesses = 0;
+    private static int tooManyRows = 0;
     private static long highest = 0;
 
     public static void main(String[] args) {
-        int runs = args.length > 0 ? Integer.parseInt(args[0]) : 6000;
+        int runs = args.length > 0 ? Integer.parseInt(args[0]) : 4000;
         int first = args.length > 1 ? Integer.parseInt(args[1]) : 0;
         for (int seed = first; seed < first + runs; seed++) {
             compare(seed);
         }
         System.out.println("kinds " + kinds[0] + " " + kinds[1] + " " + kinds[2] + " " + kinds[3]
             + ", degrees " + degrees[1] + " " + degrees[2] + " " + degrees[3] + " " + degrees[4] + " " + degrees[5]
-            + ", overflows " + overflows + ", too large " + tooLarge + ", long witnesses " + longWitnesses
+            + ", overflows " + overflows + ", too large " + tooLarge + ", too many rows " + tooManyRows
             + ", highest ambiguity " + highest);
         for (int i = 0; i < 4; i++) {
             Due.be("kind " + i + " came up", kinds[i] > 0);
             Due.be("degree " + (i + 1) + " came up", degrees[i + 1] > 0);
         }
+        Due.be("too many rows came up", tooManyRows > 0);
         Due.be("overflows came up", overflows > 0);
         Due.be("results that are too large came up", tooLarge > 0);
         Due.end();
@@ -48,7 +52,7 @@ public final class AutomataTest {
         int n = random.nextInt(3) == 0 ? 1 + random.nextInt(6) : 4 + random.nextInt(3);
         x.reset(n);
         y.reset(n);
-        int shape = random.nextInt(4);
+        int shape = random.nextInt(5);
         int letters = 1 + random.nextInt(3);
         int extra = random.nextInt(shape == 0 ? 3 * n + 1 : 4);
         for (int s = 0; shape == 1 && s < n; s++) {
@@ -70,7 +74,10 @@ public final class AutomataTest {
             int s = random.nextInt(n);
             addBoth(x, y, s, random.nextInt(letters), s + random.nextInt(n - s));
         }
-        for (int i = 0; i < extra; i++) {
+        if (shape == 4) {
+            addMaps(x, y, n, random);
+        }
+        for (int i = 0; shape != 4 && i < extra; i++) {
             addBoth(x, y, random.nextInt(n), random.nextInt(letters), random.nextInt(n));
         }
         for (int i = random.nextInt(3); i >= 0; i--) {
@@ -78,6 +85,31 @@ public final class AutomataTest {
             int t = shape == 0 ? random.nextInt(n) : n - 1 - i;
             Due.be("setInitial", x.setInitial(s, true), y.setInitial(s, true));
             Due.be("setFinal", x.setFinal(t, true), y.setFinal(t, true));
+        }
+    }
+
+    /**
+     * Two permutations and a map of all states but one, which leads to many others: often there are
+     * hundreds of different rows, and sometimes too many.
+     */
+    private static void addMaps(AmbiguityAnalyzer x, Oracle y, int n, Random random) {
+        int start = random.nextInt(n);
+        List<Integer> others = new ArrayList<>();
+        for (int s = 0; s < n; s++) {
+            if (s != start) {
+                others.add(s);
+            }
+            Due.be("setInitial", x.setInitial(s, true), y.setInitial(s, true));
+        }
+        List<Integer> images = new ArrayList<>(others);
+        for (int a = 0; a < 3; a++) {
+            Collections.shuffle(images, random);
+            for (int i = 0; i < others.size(); i++) {
+                addBoth(x, y, others.get(i), a, images.get(a == 2 && i == 0 ? others.size() - 1 : i));
+                if (random.nextBoolean()) {
+                    addBoth(x, y, start, a, others.get(i));
+                }
+            }
         }
     }
 
@@ -99,6 +131,7 @@ public final class AutomataTest {
         long maximum = x.maximumAmbiguity();
         Due.be(at + "maximumAmbiguity()", maximum, y.maximumAmbiguity());
         highest = Math.max(highest, maximum);
+        tooManyRows += maximum == -5 ? 1 : 0;
         Due.be(at + "usefulStates()", x.usefulStates(), y.usefulStates());
         for (int p = 0; p < x.stateCount(); p++) {
             Due.be(at + "isLoopState(" + p + ")", x.isLoopState(p), y.isLoopState(p));
@@ -126,7 +159,6 @@ public final class AutomataTest {
         Due.be(at + "lightestWeight()", x.lightestWeight(), y.lightestWeight());
         for (int w = 0; w < 4; w++) {
             int length = x.witnessLength(w);
-            longWitnesses += length > 20 ? 1 : 0;
             Due.be(at + "witnessState(" + w + ")", x.witnessState(w), y.witnessState(w));
             Due.be(at + "witnessLength(" + w + ")", length, y.witnessLength(w));
             for (int i = -1; i <= length; i++) {

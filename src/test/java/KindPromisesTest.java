@@ -56,6 +56,11 @@ public final class KindPromisesTest {
         Due.be("26: pairs without a path", Due.analyzer(5, ">4;4a0;4a2;1!;3!;0a0;0a1;1a1;2b2;2b3;3b3").degree(), 1);
         Due.be("26: the longer branch", Due.analyzer(6,
             ">0;1!;5!;0a0;0a1;1a1;0b2;2a2;2a3;3a3;3a4;4a4;4c5;0c0").degree(), 2);
+        AmbiguityAnalyzer again = Due.analyzer(6, ">5;0!;5a5;5a4;4a4;4a3;3a3;3a2;2a2;2a1;1a1;1a0;0a0");
+        Due.be("26: the same object", again.degree(), 5);
+        again.reset(2);
+        Due.parsed(again, ">0;1!;0a0;0a1;1a1");
+        Due.be("26: the same object again", again.degree(), 1);
         // With one letter for all loops, the pair of the first and the last state is one step only.
         Due.be("26: one jump", Due.analyzer(3, ">0;2!;0a0;0a2;2a2;0b1").degree(), 1);
     }
@@ -76,6 +81,16 @@ public final class KindPromisesTest {
         Due.be("27: it is too large", x.maximumAmbiguity(), AmbiguityAnalyzer.TOO_LARGE);
         x.reset(1);
         Due.be("27: and well again", x.maximumAmbiguity(), 0);
+        AmbiguityAnalyzer again = new AmbiguityAnalyzer();
+        String[] automata = {THOUSAND_ROWS, ">0;>1;0!;1!", THOUSAND_ROWS, MORE_ROWS, THOUSAND_ROWS, "0!", ">0;0a1;0a2;1!;2!"};
+        int[] maxima = {8, 2, 8, AmbiguityAnalyzer.TOO_LARGE, 8, 0, 2};
+        for (int i = 0; i < automata.length; i++) {
+            again.reset(6);
+            for (String item : automata[i].split(";")) {
+                Due.be("16: " + item, Due.parsed(again, item), 1);
+            }
+            Due.be("27: the same object, automaton " + i, again.maximumAmbiguity(), maxima[i]);
+        }
         kinds("accepted words of one path, others of more",
             Due.analyzer(3, ">0;>1;0a2;1b2;2!;0c0;1c1"), 0, 0, 1);
         kinds("a product", Due.analyzer(6, ">0;>1;0a2;0a3;1a2;1a3;2b4;2b5;3b4;3b5;4!;5!"), 1, 0, 8);

@@ -10,7 +10,7 @@ import java.util.Set;
 
 /**
  * All calls of a run live in one room of 600,000 objects and 7.3 million fields and elements. An object
- * must be small enough even if each of 512 calls makes one, and no call may make anything more.
+ * must be small enough even if each of 512 calls makes one, and calls that come again make nothing more.
  */
 public final class RoomTest {
     public static void main(String[] args) throws IllegalAccessException {
@@ -20,8 +20,15 @@ public final class RoomTest {
     }
 
     private static void size() throws IllegalAccessException {
+        AmbiguityAnalyzer x = new AmbiguityAnalyzer();
+        Due.be("512 new objects fit", fits(x, 512));
+        Due.be("maximumAmbiguity()", x.maximumAmbiguity(), 0);
+        Due.be("256 objects of which each has counted its rows fit", fits(x, 256));
+    }
+
+    private static boolean fits(AmbiguityAnalyzer x, int times) throws IllegalAccessException {
         Set<Object> seen = Collections.newSetFromMap(new IdentityHashMap<>());
-        List<Object> todo = new ArrayList<>(List.of(new AmbiguityAnalyzer()));
+        List<Object> todo = new ArrayList<>(List.of(x));
         long cells = 0;
         while (!todo.isEmpty()) {
             Object object = todo.remove(todo.size() - 1);
@@ -30,8 +37,7 @@ public final class RoomTest {
             }
         }
         System.out.println("an object: " + seen.size() + " objects and arrays, " + cells + " fields and elements");
-        Due.be("objects and arrays of 512 objects", seen.size() * 512 < 600000);
-        Due.be("fields and elements of 512 objects", cells * 512 < 7300000);
+        return seen.size() * times < 600000 && cells * times < 7300000;
     }
 
     private static long elements(Object array, List<Object> todo) {

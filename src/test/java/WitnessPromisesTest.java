@@ -31,6 +31,7 @@ public final class WitnessPromisesTest {
         for (int wrong : new int[] {-1, 0, 3, 4, Integer.MIN_VALUE, Integer.MAX_VALUE}) {
             Due.be("30: witness " + wrong, x.witnessState(wrong), NO_SUCH_ELEMENT);
         }
+        Due.be("30: q is state 0", Due.analyzer(2, ">1;0!;1a1;1a0;0a0").witnessState(2), 8);
         Due.be("30: the last pair", Due.analyzer(6, ">5;4!;5c5;5c4;4c4").witnessState(2), 44);
         Due.be("30: loop state 0", Due.analyzer(2, ">0;0!;0a0;0a1;1a0").witnessState(1), 0);
     }
@@ -164,6 +165,8 @@ public final class WitnessPromisesTest {
         Due.same("32: lighter before first letters", Due.witness(ties, 3), "ba");
         ties.addTransition(3, 1, 5);
         Due.same("32: first letters", Due.witness(ties, 3), "ab");
+        AmbiguityAnalyzer aside = Due.analyzer(6, ">1;5!;1b2;2a5;0a5");
+        Due.same("32: a state aside does not count", Due.witness(aside, 3), "ba");
         AmbiguityAnalyzer heavy = Due.analyzer(6, ">0;5!;0a1;1a2;2a3;3a4;4a5;1b0;4c4");
         heavy.setWeight(0, 100);
         heavy.setWeight(1, 0);
