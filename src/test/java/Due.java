@@ -2,15 +2,25 @@
 final class Due {
     private static int checked = 0;
     private static int wrong = 0;
+    private static String subject = "";
 
     private Due() {
+    }
+
+    /** Says what the answers from now on are about; it stands before each answer that is not as due. */
+    static void about(String newSubject) {
+        subject = newSubject.isEmpty() ? "" : newSubject + "\n    ";
+    }
+
+    static int checkedSoFar() {
+        return checked;
     }
 
     static void be(String call, long got, long want) {
         checked++;
         if (got != want) {
             wrong++;
-            System.out.println(call + " answered " + got + ", due is " + want);
+            System.out.println(subject + call + " answered " + got + ", due is " + want);
         }
     }
 
@@ -18,7 +28,7 @@ final class Due {
         checked++;
         if (!holds) {
             wrong++;
-            System.out.println("does not hold: " + what);
+            System.out.println(subject + "does not hold: " + what);
         }
     }
 
@@ -30,16 +40,26 @@ final class Due {
         return x.parse();
     }
 
-    /** A new analyzer with that many states and the items of the text, which may be long. */
+    /** A new analyzer with that many states and the items, added one by one. */
     static AmbiguityAnalyzer analyzer(int states, String items) {
         AmbiguityAnalyzer x = new AmbiguityAnalyzer();
         be("reset(" + states + ")", x.reset(states), 1);
-        if (!items.isEmpty()) {
-            for (String item : items.split(";")) {
-                be("parse() of " + item, parsed(x, item), 1);
+        fill(x, items);
+        return x;
+    }
+
+    /** Adds the items, each of which is new, by a call each: an object is good for 512 calls only. */
+    static void fill(AmbiguityAnalyzer x, String items) {
+        for (String item : items.isEmpty() ? new String[0] : items.split(";")) {
+            int first = item.charAt(0) - '0';
+            if (item.charAt(0) == '>') {
+                be("setInitial for " + item, x.setInitial(item.charAt(1) - '0', true), 0);
+            } else if (item.charAt(1) == '!') {
+                be("setFinal for " + item, x.setFinal(first, true), 0);
+            } else {
+                be("addTransition for " + item, x.addTransition(first, item.charAt(1) - 'a', item.charAt(2) - '0'), 1);
             }
         }
-        return x;
     }
 
     /** Replaces the current word. */
@@ -67,7 +87,7 @@ final class Due {
         checked++;
         if (got == null ? want != null : !got.equals(want)) {
             wrong++;
-            System.out.println(what + " answered " + got + ", due is " + want);
+            System.out.println(subject + what + " answered " + got + ", due is " + want);
         }
     }
 
