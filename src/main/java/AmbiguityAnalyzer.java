@@ -648,6 +648,9 @@ public final class AmbiguityAnalyzer {
         }
 
         private void moveTargets(int from, int to, int set) {
+            if (to < 0 || to >= MAX_STATES) {
+                return;
+            }
             for (int letter = 0; letter < LETTERS; letter++) {
                 targets[to * LETTERS + letter] = squeeze(targetsOf(from, letter), set);
             }
@@ -837,14 +840,15 @@ public final class AmbiguityAnalyzer {
 
         /** Loads the sets whose highest state is s; those without s are loaded already. */
         private void loadSetsUpTo(int s, int letter, int targets) {
-            int highest = letter * SETS + (1 << s);
-            int end = letter * SETS + (2 << s);
-            for (int at = highest; at < end && at < once.length; at++) {
-                int rest = at - (1 << s);
-                if (rest >= 0) {
-                    once[at] = once[rest] | targets;
-                    twice[at] = twice[rest] | once[rest] & targets;
-                }
+            if (s < 0 || s >= MAX_STATES || !isLetter(letter)) {
+                return;
+            }
+            int highest = 1 << s;
+            for (int lower = 0; lower < highest; lower++) {
+                int rest = letter * SETS + lower;
+                int at = rest + highest;
+                once[at] = once[rest] | targets;
+                twice[at] = twice[rest] | once[rest] & targets;
             }
         }
 
